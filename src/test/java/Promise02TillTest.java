@@ -24,8 +24,10 @@ public final class Promise02TillTest {
     private static void newTillStandsInPlaceOfWhatWas() {
         TillHolds x = new TillHolds();
         x.till(4, 20);
-        x.put(4, 1, 6);
-        x.take(4, 4);
+        for (int kind = 0; kind <= 4; kind++) {
+            x.put(4, kind, 4);
+        }
+        x.take(4, 40);
         x.shut(4, true);
         int held = x.count(0);
         Check.due("till(4, 9)", x.till(4, 9), 1);

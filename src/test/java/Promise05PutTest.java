@@ -32,6 +32,14 @@ public final class Promise05PutTest {
         Check.due("put(0, 0, 2)", x.put(0, 0, 2), 2);
         Check.due("hand(0)", x.hand(0), 4);
         Check.due("look(0, 0)", x.look(0, 0), 2);
+        x.till(1, 200);
+        for (int kind = 0; kind <= 4; kind++) {
+            x.put(1, kind, 1);
+        }
+        x.take(1, 38);
+        Check.due("put(0, 1, 1): none of those that were taken", x.put(0, 1, 1), 3);
+        Check.due("look(0, 6)", x.look(0, 6), 4);
+        Check.due("hand(6)", x.hand(6), 42);
     }
 
     private static void failures() {

@@ -46,7 +46,10 @@ public final class Promise08PassTest {
         Check.due("look(0, 3): the last pays nothing", x.look(0, 3), 1);
         Check.due("hand(6): only what was there before", x.hand(6), 20);
         Check.due("pass(12, 0, true)", x.pass(12, 0, true), 2);
-        Check.due("pass(102030, 0, false)", x.pass(102030, 0, false), 6);
+        Check.due("pass(10, 0, false)", x.pass(10, 0, false), 2);
+        Check.due("pass(100, 0, false)", x.pass(100, 0, false), 3);
+        Check.due("pass(10000, 0, true)", x.pass(10000, 0, true), 5);
+        Check.due("pass(100000, 0, false)", x.pass(100000, 0, false), 6);
         Check.due("count(2)", x.count(2), 6);
     }
 
@@ -85,6 +88,7 @@ public final class Promise08PassTest {
         Check.due("count(1)", x.count(1), 12);
         Check.due("pass(3214, 10, true): too much", x.pass(3214, 10, true), -14);
         Check.due("pass(3246, 10, true): too much in the middle", x.pass(3246, 10, true), -14);
+        Check.due("pass(64, 20, true): the greatest kind", x.pass(64, 20, true), -14);
         Check.due("pass(7123, 10, true): the first is missing", x.pass(7123, 10, true), -11);
         Check.holds("all is as it was", Check.seen(x).equals(was));
     }
