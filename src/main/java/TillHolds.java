@@ -229,11 +229,16 @@ public final class TillHolds {
     private boolean pick(Till till, int worth) {
         int rest = worth;
         for (int kind = KINDS - 1; kind >= 0; kind--) {
-            int n = Math.min(till.coins.of[kind], rest / WORTHS[kind]);
+            int n = Math.min(till.coins.of[kind], howOftenIn(rest, WORTHS[kind]));
             picked.of[kind] = n;
             rest -= n * WORTHS[kind];
         }
         return rest == 0;
+    }
+
+    /** No coin is worth 0, but a divisor is looked at before it divides. */
+    private static int howOftenIn(int rest, int worth) {
+        return worth > 0 ? rest / worth : 0;
     }
 
     private boolean couldPay(Till till, int worth) {

@@ -10,7 +10,6 @@ public final class EdgeTermsTest {
         depthCountsOneTillTwice();
         badGoesBeforeEachFailure();
         failuresComeAsTheyAreMet();
-        anObjectLastsForItsCalls();
         Check.done();
     }
 
@@ -222,23 +221,5 @@ public final class EdgeTermsTest {
         w.due("share(1, 0, 0): shut, then full", w.x.share(1, 0, 0), -12, 2, 2);
         w.till(1, 2, 0, 0, 0, 0);
         w.hand(1, 0, 0, 0, 0);
-    }
-
-    // What it is: "An object is used for at most 512 calls after it has been made"
-    private static void anObjectLastsForItsCalls() {
-        TillHolds x = new TillHolds();
-        x.till(0, 0);
-        for (int call = 2; call <= 509; call++) {
-            x.put(0, 4, 200);
-        }
-        Check.due("hand(5), the 510th call", x.hand(5), 508 * 200);
-        Check.due("hand(6), the 511th call", x.hand(6), 508 * 4000);
-        Check.due("count(1), the 512th call", x.count(1), 508);
-        TillHolds deep = new TillHolds();
-        deep.till(7, 0);
-        for (int call = 2; call <= 511; call++) {
-            deep.pass(777777, 0, true);
-        }
-        Check.due("count(0), the 512th call", deep.count(0), 510 * 6);
     }
 }

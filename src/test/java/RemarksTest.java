@@ -11,7 +11,7 @@ import java.util.stream.Stream;
 
 /**
  * Each test of an edge names the sentence that it holds the class to, in that sentence's own words, and no sentence
- * of the terms and the promises goes without a test. The program's path is the argument.
+ * of what the class is, of the terms and of the promises goes without a test. The program's path is the argument.
  */
 public final class RemarksTest {
     private static final Pattern TEST = Pattern.compile("(.*)\\n    private static void (\\w+)\\(\\) \\{");
@@ -37,7 +37,7 @@ public final class RemarksTest {
     private static void compareAll(Map<String, String> sections, Map<String, List<String>> quotes) {
         quotes.forEach((name, ofSection) -> compare(name, sections.getOrDefault(name, ""), ofSection));
         sections.forEach((name, text) -> {
-            if (name.equals("Terms") || name.startsWith("Promise")) {
+            if (name.equals("What it is") || name.equals("Terms") || name.startsWith("Promise")) {
                 Check.holds("section '" + name + "' has a test", quotes.containsKey(name));
             }
         });
@@ -88,7 +88,7 @@ public final class RemarksTest {
         for (int place = 0; place < text.length(); place++) {
             rest.append(quoted[place] ? ' ' : text.charAt(place));
         }
-        if (!name.equals("What it is")) {
+        if (!name.equals("Not promised")) {
             Check.holds("all of section '" + name + "' has a test, not so: " + rest.toString().replaceAll(" +", " "),
                 !Pattern.compile("\\w").matcher(rest).find());
         }
